@@ -21,6 +21,8 @@ public final class PortsTest {
         Check.due("0 at first", x.port(1, 7), 0);
         Check.due("the one before", x.port(1, 5), 7);
         Check.due("the same again", x.port(1, 5), 5);
+        Check.due("back to the lowest", x.port(1, 0), 5);
+        Check.due("and away", x.port(1, 5), 0);
         for (int bad : new int[] {-1, 4, 64, Integer.MIN_VALUE, Integer.MAX_VALUE}) {
             Check.noIndex("port of place " + bad, () -> x.port(bad, 0));
             Check.noIndex("place first " + bad, () -> x.port(bad, 8));
