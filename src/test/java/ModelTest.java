@@ -1,5 +1,6 @@
 import java.util.ArrayList;
 import java.util.Arrays;
+import java.util.Collections;
 import java.util.List;
 import java.util.Random;
 import java.util.function.IntSupplier;
@@ -10,6 +11,7 @@ import java.util.function.IntSupplier;
  */
 public final class ModelTest {
     private static final int NONE = RenameRows.NONE;
+    private static final int MOST_CALLS = 512;
     private static final int NO_INDEX = -101;
     private static final int NO_STATE = -102;
     private static final int NO_ARGUMENT = -103;
@@ -21,6 +23,18 @@ public final class ModelTest {
 
     private static final class Mark {
         int number, at;
+    }
+
+    private static final class Question {
+        final String what;
+        final IntSupplier call;
+        final int want;
+
+        Question(String what, IntSupplier call, int want) {
+            this.what = what;
+            this.call = call;
+            this.want = want;
+        }
     }
 
     private static final class Model {
@@ -303,7 +317,7 @@ public final class ModelTest {
 
     public static void main(String[] args) {
         Random random = new Random(20261115);
-        for (int run = 0; run < 1200; run++) {
+        for (int run = 0; run < 6000; run++) {
             boolean wild = run % 4 == 0;
             int registers = wild ? random.nextInt() : random.nextInt(6) + 1;
             int names = wild ? random.nextInt() : random.nextInt(12) + 1;
@@ -313,12 +327,17 @@ public final class ModelTest {
         Check.close();
     }
 
+    /** Some calls, and then, with what is left of the 512, as much as they allow of all that there is to ask. */
     private static void run(int run, Random random, RenameRows x, Model m) {
-        for (int call = 0; call < 512; call++) {
+        int calls = random.nextInt(MOST_CALLS);
+        for (int call = 0; call < calls; call++) {
             one("run " + run + " call " + call + " ", random, x, m);
-            if (call % 32 == 31) {
-                compareAll("run " + run + " after call " + call + " ", x, m);
-            }
+        }
+        List<Question> questions = questions(x, m);
+        Collections.shuffle(questions, random);
+        for (int k = 0; k < questions.size() && calls + k < MOST_CALLS; k++) {
+            Question q = questions.get(k);
+            same("run " + run + " after " + calls + " calls " + q.what, q.call, q.want);
         }
     }
 
@@ -361,9 +380,11 @@ public final class ModelTest {
         } else if (kind < 96) {
             int mark = takenMark(random, m, eight);
             same(at + "wrong " + mark, () -> x.wrong(mark), m.wrong(mark));
+        } else if (kind < 98) {
+            int what = number(random, 7);
+            same(at + "row " + place + " " + what, () -> x.row(place, what), m.row(place, what));
         } else {
             int what = number(random, 11);
-            same(at + "row " + place + " " + what, () -> x.row(place, what), m.row(place, what));
             same(at + "count " + what, () -> x.count(what), m.count(what));
         }
     }
@@ -383,23 +404,28 @@ public final class ModelTest {
         return any ? other : m.marks.get(random.nextInt(m.marks.size())).number;
     }
 
-    private static void compareAll(String at, RenameRows x, Model m) {
+    private static List<Question> questions(RenameRows x, Model m) {
+        List<Question> all = new ArrayList<>();
         for (int k = -1; k <= m.p; k++) {
             int number = k;
-            same(at + "name " + k, () -> x.name(number), m.name(k));
-            same(at + "sure " + k, () -> x.sure(number), m.sure(k));
-            same(at + "shares " + k, () -> x.shares(number), m.shares(k));
-            same(at + "queue " + k, () -> x.queue(number), m.queue(k));
-            same(at + "selected " + k, () -> x.selected(number), m.selected(k));
-            same(at + "count " + k, () -> x.count(number), m.count(k));
+            all.add(new Question("name " + k, () -> x.name(number), m.name(k)));
+            all.add(new Question("sure " + k, () -> x.sure(number), m.sure(k)));
+            all.add(new Question("shares " + k, () -> x.shares(number), m.shares(k)));
+            all.add(new Question("queue " + k, () -> x.queue(number), m.queue(k)));
+        }
+        for (int k = -1; k <= 11; k++) {
+            int number = k;
+            all.add(new Question("selected " + k, () -> x.selected(number), m.selected(k)));
+            all.add(new Question("count " + k, () -> x.count(number), m.count(k)));
         }
         for (int place = -1; place <= m.n; place++) {
             for (int what = -1; what <= 7; what++) {
                 int row = place;
                 int told = what;
-                same(at + "row " + row + " " + told, () -> x.row(row, told), m.row(row, told));
+                all.add(new Question("row " + row + " " + told, () -> x.row(row, told), m.row(row, told)));
             }
         }
+        return all;
     }
 
     private static void same(String at, IntSupplier call, int want) {

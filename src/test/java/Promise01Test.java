@@ -105,7 +105,7 @@ public final class Promise01Test {
     }
 
     private static void asManyAsTheyAreTold() {
-        Check.about(PROMISE, "R, P and N are what there is, from the least to the most");
+        Check.about(PROMISE, "R is .. P is .. N is (and so many there are, from the least to the most)");
         for (int[] size : new int[][] {{1, 1, 1}, {32, 64, 64}, {0, 0, 0}, {33, 65, 65}}) {
             RenameRows x = new RenameRows(size[0], size[1], size[2]);
             int r = rest(size[0], 32);

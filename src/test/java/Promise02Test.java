@@ -52,7 +52,7 @@ public final class Promise02Test {
     }
 
     private static void theFirstNameOfTheQueue() {
-        Check.about(PROMISE, "gives register to the first name of the queue");
+        Check.about(PROMISE, "gives register to .. the first name of the queue");
         RenameRows x = new RenameRows(2, 2, 3);
         for (int k = 0; k < 9; k++) {
             int first = x.queue(0);

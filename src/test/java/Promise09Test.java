@@ -5,6 +5,7 @@ public final class Promise09Test {
 
     public static void main(String[] args) {
         behindTheRowsThatThereAre();
+        behindRowsThatAreDone();
         inAnEmptyAndAFullRing();
         theLowestThatIsFree();
         orNone();
@@ -21,6 +22,23 @@ public final class Promise09Test {
         Check.due("one row came behind mark 5", x.wrong(5), 1);
         Check.due("three behind mark 2", x.wrong(2), 3);
         Check.due("the other two", x.wrong(0), 2);
+    }
+
+    private static void behindRowsThatAreDone() {
+        Check.about(PROMISE, "behind the rows that there are (when others were done, or taken back, before)");
+        RenameRows x = new RenameRows(1, 1, 3);
+        for (int k = 0; k < 5; k++) {
+            x.move(0, 0);
+            x.commit(1);
+        }
+        Made.moves(x, 1);
+        Check.due("behind one row, five are done", x.branch(), 0);
+        Made.moves(x, 2);
+        Check.due("two came behind it", x.wrong(0), 2);
+        Check.due("behind one row again", x.branch(), 0);
+        Made.moves(x, 1);
+        Check.due("the one before it is done", x.commit(3), 1);
+        Check.due("one came behind it", x.wrong(0), 1);
     }
 
     private static void inAnEmptyAndAFullRing() {
